@@ -167,8 +167,11 @@ final class AskAndRulesTest {
         follow(x, "rule A(x,y),A(x,z)->false;", 0);
         follow(x, "rule A(x,y),A(z,w),B(z)->A(w,z);", 1);
         follow(x, "rule A(x,y),A(z,w),B(z)->A(w,x);", 0);
-        // ?0 stands for y, not for x: y stands first, so x goes where both melt
         follow(x, "rule A(y,x),B(y)->A(x,y),B(x);", 1);
+        follow(x, "rule A(a,b),A(a,c)->b=c;", 1);
+        follow(x, "rule A(b,a),A(b,c)->c=a;", 1);
+        follow(x, "rule A(z,a),A(z,3),B(a)->B(3);", 1);
+        follow(x, "rule A(a,z),B(a)->A(z,z);", 1);
     }
 
     private static void promise22Spent() {
@@ -217,6 +220,8 @@ final class AskAndRulesTest {
         ends("rule A(x)->B(x,y);rule B(x,y)->A(x);", 1);
         ends("rule B(x,y)->B(y,z);", 0);
         ends("rule B(x,y)->B(x,z);", 1);
+        ends("rule B(x,a)->B(a,z);", 0);
+        ends("rule B(x,z)->B(z,a);", 0);
         ends("rule B(x,y)->B(y,x);", 1);
         ends("rule B(x,y),A(y)->C(y,x,z);rule C(x,y,z)->B(z,x);", 0);
         ends("rule B(x,y)->C(x,3,z);rule C(x,3,z)->B(x,z);", 1);
@@ -250,5 +255,11 @@ final class AskAndRulesTest {
         Check.same("on the way", 3, y.rank(0, 3, 1));
         Check.same("one less", 2, y.rank(0, 3, 0));
         Check.same("at the start", 0, y.rank(0, 0, 1));
+        Check.load(y, 1, "table A 2;table F 2;rule A(x,y)->F(x,y);");
+        Check.same("each hall by its own rules", 0, y.rank(1, 5, 1));
+        Check.load(y, 2, "table A 2;rule A(x,y)->A(y,z);");
+        Check.same("a ring here", NONE, y.rank(2, 0, 1));
+        Check.same("none there", 0, y.rank(1, 5, 0));
+        Check.same("and the first stays", 5, y.rank(0, 5, 1));
     }
 }

@@ -59,6 +59,13 @@ final class HallTest {
         Check.same("the least that never was", 3, x.look(0, 7));
         Check.refusesHall("look(3, 99)", () -> x.look(3, 99));
         Check.refusesHall("look(-1, 0)", () -> x.look(-1, 0));
+        ChaseHall full = Check.loaded("table A 3;");
+        full.run(0, 0);
+        for (int n = 0; n < 40; n++) {
+            full.put(0, 0, n, 1000 + n, 1000 + n / 2);
+            Check.same("not run since a row came", 0, full.look(0, 5));
+        }
+        Check.same("nameless ones in 40 rows", 40, full.look(0, 4));
         ChaseHall y = Check.loaded("table A 3;");
         for (int n = 0; n < 34; n++) {
             y.put(0, 0, 1000 + 3 * n, 1000 + Math.min(99, 3 * n + 1), 1000 + Math.min(99, 3 * n + 2));

@@ -5,6 +5,7 @@ final class RunTest {
     public static void main(String[] args) {
         promise11Turns();
         promise11Melts();
+        promise11MeltsAll();
         promise11Fails();
         promise11SpentSteps();
         promise11SpentRoom();
@@ -14,7 +15,9 @@ final class RunTest {
         promise12Step();
         promise13By();
         promise14Holds();
+        promise14SecondChoice();
         promise15Hit();
+        promise15GreatestFirst();
         promise16Hits();
         Check.finish("RunTest");
     }
@@ -51,6 +54,18 @@ final class RunTest {
         x = Check.loaded("table A 1;row A(?0);rule A(x)->4=x;");
         Check.same("value on the left", 1, x.run(0, 1));
         Check.sameText("the nameless one goes", "0 0 0 -1 -1 1000 4", Check.step(x, 0, 0));
+    }
+
+    private static void promise11MeltsAll() {
+        ChaseHall x = Check.loaded("table A 3;rule A(x,y,z),A(u,v,w)->x=u;");
+        for (int n = 0; n < 40; n++) {
+            x.put(0, 0, 1000 + n, 7, 1099);
+        }
+        Check.same("40 rows become one", 1, x.run(0, 39));
+        Check.sameText("the first", "0A(1000,7,1099)", Check.rows(x, 0));
+        Check.same("in 39 steps", 39, x.look(0, 6));
+        Check.sameText("the last of them", "0 0 0 39 -1 1039 1000", Check.step(x, 0, 38));
+        Check.same("numbers go on", 40, x.put(0, 0, 1, 1, 1));
     }
 
     private static void promise11Fails() {
@@ -203,6 +218,29 @@ final class RunTest {
         ChaseHall y = Check.loaded("table A 1;row A(?3);rule A(3)->false;rule A(x)->x=3;");
         Check.same("a nameless one is no number", 1, y.holds(0, 0));
         Check.same("nor alike one", 0, y.holds(0, 1));
+    }
+
+    /** A choice of ROWS that does not do leaves nothing behind that spoils the next one. */
+    private static void promise14SecondChoice() {
+        ChaseHall x = Check.loaded("table A 1;table B 2;table C 1;row A(1);row B(5,9);row B(6,1);row B(1,5);"
+                + "row B(1,6);row C(6);rule A(x)->B(a,x);rule A(x)->B(x,a),C(a);rule A(x)->B(x,a),B(a,x),C(a);"
+                + "rule A(x)->B(x,a),B(a,b),B(b,c);");
+        int[] want = {1, 1, 1, 1};
+        for (int r = 0; r < 4; r++) {
+            Check.same("holds by a later choice " + r, want[r], x.holds(0, r));
+        }
+        x.strike(0, 5);
+        Check.same("C(6) went", 0, x.holds(0, 1));
+        Check.same("the others do not need it", 1, x.holds(0, 3));
+    }
+
+    private static void promise15GreatestFirst() {
+        ChaseHall x = Check.loaded("table A 1;table B 1;row A(1);row A(2);row B(5);row A(3);"
+                + "rule B(y),A(x)->false;rule A(x),B(y),A(z)->false;rule A(a),A(b)->a=b;");
+        Check.sameText("the first of those with one greatest row", "2 0", x.hit(0, 0, 0) + " " + x.hit(0, 0, 1));
+        Check.sameText("three atoms", "0 2 0",
+                x.hit(0, 1, 0) + " " + x.hit(0, 1, 1) + " " + x.hit(0, 1, 2));
+        Check.sameText("0, 1 ahead of 1, 0", "0 1", x.hit(0, 2, 0) + " " + x.hit(0, 2, 1));
     }
 
     private static void promise15Hit() {

@@ -7,6 +7,7 @@ final class TapeAndTextTest {
         promise2Feed();
         promise3End();
         promise4Load();
+        promise4Afresh();
         promise4Tokens();
         promise4Limits();
         promise5Fault();
@@ -109,6 +110,20 @@ final class TapeAndTextTest {
         Check.refusesHall("load(-1)", () -> y.load(-1));
         Check.same("a refused load keeps the tape", 0, x.load(2));
         Check.same("and it was read then", 1, x.look(2, 0));
+    }
+
+    /** What earlier calls tried aside does not come with a text. */
+    private static void promise4Afresh() {
+        ChaseHall x = Check.loaded("table A 1;row A(?4);rule A(x)->false;");
+        x.run(0, 3);
+        x.core(0);
+        Check.follows(x, 0, "rule A(x)->A(x);");
+        Check.same("another hall", 1, Check.load(x, 1, "table A 2;row A(?0,1);"));
+        Check.same("its state", 0, x.look(1, 5));
+        Check.same("its steps", 0, x.look(1, 6));
+        Check.same("its next number", 1, x.look(1, 3));
+        Check.same("its nameless ones", 1, x.look(1, 7));
+        Check.same("its rules", 0, x.look(1, 1));
     }
 
     private static void promise4Tokens() {
