@@ -6,6 +6,13 @@ import java.util.Random;
 final class AgainstModelTest {
     private static final int THROWN_HALL = -1001;
     private static final int THROWN_TABLE = -1002;
+    /** What an object answers behind so many calls is free. */
+    private static final int MOST_CALLS = 512;
+
+    /** The object has been used for all the calls that it may. */
+    private static final class Used extends RuntimeException {
+        private static final long serialVersionUID = 1L;
+    }
 
     private static final class Spread {
         final int[] loads = new int[7];
@@ -16,6 +23,7 @@ final class AgainstModelTest {
         int shrunk = 0;
         int answered = 0;
         int melted = 0;
+        int used = 0;
     }
 
     private interface Call {
@@ -27,6 +35,7 @@ final class AgainstModelTest {
     private final ModelHall model = new ModelHall();
     private final StringBuilder story = new StringBuilder();
     private final Spread spread;
+    private int calls = 0;
 
     private AgainstModelTest(long seed, Spread spread) {
         this.random = new Random(seed);
@@ -44,6 +53,10 @@ final class AgainstModelTest {
     }
 
     private int both(String what, Call ofReal, Call ofModel) {
+        calls++;
+        if (calls > MOST_CALLS) {
+            throw new Used();
+        }
         int got = outcome(ofReal);
         int want = outcome(ofModel);
         if (got != want) {
@@ -208,7 +221,7 @@ final class AgainstModelTest {
         String call = "leads(" + h + ", " + to + ") ";
         int led = both(call, () -> real.leads(h, to), () -> model.leads(h, to));
         story.append(call);
-        for (int n = -1; n <= 100; n++) {
+        for (int n = -1; n <= 100; n += n == 12 ? 87 : 1) {
             int nameless = n;
             both("stands(" + n + ")", () -> real.stands(nameless), () -> model.stands(nameless));
         }
@@ -281,7 +294,7 @@ final class AgainstModelTest {
             }
             spread.melted += model.step(h, i, 5) >= 1000 ? 1 : 0;
         }
-        for (int i = -1; i <= 200; i++) {
+        for (int i = -1; i <= model.look(h, 3); i++) {
             int number = i;
             both("by(" + h + ", " + i + ")", () -> real.by(h, number), () -> model.by(h, number));
         }
@@ -330,16 +343,17 @@ final class AgainstModelTest {
         }
     }
 
+    /** Goes on till the object is used up. */
     private void play() {
         load(0);
-        compareWays(0);
-        for (int n = 0; n < 12; n++) {
+        while (true) {
             someCall();
-            compareHall(below(3));
-        }
-        for (int h = 0; h < 3; h++) {
-            compareHall(h);
-            compareWays(h);
+            int look = below(8);
+            if (look < 2) {
+                compareHall(below(3));
+            } else if (look == 2) {
+                compareWays(below(3));
+            }
         }
     }
 
@@ -350,11 +364,15 @@ final class AgainstModelTest {
     }
 
     public static void main(String[] args) {
-        int runs = args.length > 0 ? Integer.parseInt(args[0]) : 600;
+        int runs = args.length > 0 ? Integer.parseInt(args[0]) : 2000;
         long first = args.length > 1 ? Long.parseLong(args[1]) : 1;
         Spread spread = new Spread();
         for (int n = 0; n < runs; n++) {
-            new AgainstModelTest(first + n, spread).play();
+            try {
+                new AgainstModelTest(first + n, spread).play();
+            } catch (Used e) {
+                spread.used++;
+            }
         }
         isSome("loads with fault", java.util.Arrays.copyOf(spread.loads, 6));
         isSome("states", java.util.Arrays.copyOfRange(spread.states, 1, 4));
@@ -367,7 +385,7 @@ final class AgainstModelTest {
                     + java.util.Arrays.toString(spread.states) + " leads " + java.util.Arrays.toString(spread.leads)
                     + " follows " + java.util.Arrays.toString(spread.follows) + " ends "
                     + java.util.Arrays.toString(spread.ends) + " shrunk " + spread.shrunk + " answered "
-                    + spread.answered + " melted " + spread.melted);
+                    + spread.answered + " melted " + spread.melted + " used " + spread.used);
         }
         Check.finish("AgainstModelTest");
     }

@@ -54,7 +54,7 @@ final class AnyArgumentsTest {
     }
 
     private void play() {
-        for (int n = 0; n < 300; n++) {
+        for (int n = 0; n < 250; n++) {
             int which = random.nextInt(26);
             int h = odd();
             boolean takesHall = which != 0 && which != 1 && which != 3 && which != 16 && which != 19 && which < 24;

@@ -1,16 +1,39 @@
 import java.nio.charset.StandardCharsets;
 
 /** What the tests share: counting wrong answers, and writing texts on the tape. */
-final class Check {
+class Check {
     private static int wrong = 0;
+    /** The promise and the sentence that are tested now; empty in tests that quote none. */
+    private static String sentence = "";
 
-    private Check() {
+    Check() {
+    }
+
+    /** What follows tests this sentence of a promise of the document. */
+    static void promise(int number, String quote) {
+        test("promise " + number, "Promise " + number, quote);
+    }
+
+    /** What follows tests this sentence of the document's Terms, by the calls of a promise. */
+    static void term(int promise, String part, String quote) {
+        test("promise " + promise, part, quote);
+    }
+
+    private static void test(String promise, String part, String quote) {
+        sentence = promise + ", " + part + " \"" + quote + "\": ";
+        if (!Sentences.quote(part, quote)) {
+            wrong("the document says so", "no", "yes");
+        }
+    }
+
+    private static void wrong(String what, String got, String want) {
+        wrong++;
+        System.out.println(sentence + what + ": answered " + got + ", due is " + want);
     }
 
     static void same(String what, long want, long got) {
         if (want != got) {
-            wrong++;
-            System.out.println(what + ": answered " + got + ", due is " + want);
+            wrong(what, "" + got, "" + want);
         }
     }
 
@@ -102,8 +125,7 @@ final class Check {
 
     static void sameText(String what, String want, String got) {
         if (!want.equals(got)) {
-            wrong++;
-            System.out.println(what + ": answered " + got + ", due is " + want);
+            wrong(what, got, want);
         }
     }
 

@@ -71,7 +71,8 @@ final class HallTest {
             y.put(0, 0, 1000 + 3 * n, 1000 + Math.min(99, 3 * n + 1), 1000 + Math.min(99, 3 * n + 2));
         }
         Check.same("all nameless ones", 100, y.look(0, 4));
-        Check.same("all were there", 100, y.look(0, 7));
+        // The document does not say how it is told that no number is left.
+        Check.yes("all were there", y.look(0, 7) == NONE || y.look(0, 7) > 99);
     }
 
     private static void promise8Row() {
@@ -131,7 +132,7 @@ final class HallTest {
             Check.same("put " + n, n, x.put(0, 0, n % 100, n / 100 + 60, 0));
         }
         x.strike(0, 170);
-        Check.same("next", 200, x.look(0, 3));
+        Check.yes("no number is left", x.look(0, 3) == NONE || x.look(0, 3) > 199);
         Check.same("number 200", NONE, x.put(0, 0, 5, 5, 0));
         Check.same("39 rows", 39, x.look(0, 2));
         Check.same("alike still", 199, x.put(0, 0, 99, 61, 0));

@@ -51,31 +51,28 @@ final class LeadTest {
         Check.same("spent", 2, x.leads(0, 1));
         Check.same("no lead stands", NONE, x.stands(0));
         x.strike(0, 5);
-        // 5 + 25 + .. + 3125 looks at A, and 3125 at B: 7030
+        x.strike(0, 4);
+        // 5 + 25 + .. + 625 looks at A, and 625 at B: 1405
         Check.same("not spent", 0, x.leads(0, 1));
     }
 
-    /** 20 * (1 + 9 * (1 + 10 * (1 + 10))) looks are just 20000; one more ahead of them is one too many. */
+    /**
+     * Into 40 ROWS of one TABLE, of which 1, 6, 2, 40 and none fit: 40 * (1 + 1 * (1 + 6 * (1 + 2 * (1 + 40)))) looks
+     * are just 20000; with one that fits more there are more.
+     */
     private static void promise17LastTry() {
-        String tables = "table A 1;table C 1;table D 1;table E 1;";
-        String free = "row A(?0);row C(?1);row D(?2);row D(99);";
-        ChaseHall x = Check.loaded(tables + free);
-        Check.load(x, 2, tables + "row E(5);" + free);
-        Check.load(x, 1, tables + "row E(5);");
-        fill(x, 0, 20);
-        fill(x, 2, 9);
-        fill(x, 3, 10);
+        ChaseHall x = Check.loaded("table A 2;row A(1,?0);row A(2,?1);row A(3,?2);row A(?3,?4);row A(9,?5);");
+        Check.load(x, 1, "table A 2;");
+        for (int n = 0; n < 40; n++) {
+            x.put(1, 0, n == 0 ? 1 : n <= 6 ? 2 : n <= 8 ? 3 : 4, n, 0);
+        }
         Check.same("40 rows", 40, x.look(1, 2));
         Check.same("20000 tries", 0, x.leads(0, 1));
-        Check.same("20001 tries", 2, x.leads(2, 1));
-        x.strike(1, 20);
-        Check.same("fewer again", 0, x.leads(2, 1));
-    }
-
-    private static void fill(ChaseHall x, int table, int count) {
-        for (int n = 0; n < count; n++) {
-            x.put(1, table, n, 0, 0);
-        }
+        x.strike(1, 39);
+        x.put(1, 0, 3, 77, 0);
+        Check.same("more tries", 2, x.leads(0, 1));
+        x.strike(0, 2);
+        Check.same("fewer again", 0, x.leads(0, 1));
     }
 
     private static void promise18Stands() {

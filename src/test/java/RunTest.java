@@ -128,7 +128,7 @@ final class RunTest {
         }
         Check.same("number 199 is the last one", 1, x.run(0, 100));
         Check.same("by", 0, x.by(0, 199));
-        Check.same("next then", 200, x.look(0, 3));
+        Check.same("no number is left", NONE, x.put(0, 0, 1000, 0, 0));
     }
 
     private static void promise11SpentNameless() {

@@ -161,9 +161,6 @@ final class TapeAndTextTest {
         int place = rows.length() + 4;
         faults(rows + "row A(40);", 4, place);
         faults(rows + "row A(?0);", 4, place);
-        faults(rows + "row A(40)", 4, place);
-        faults(rows + "row A(x);", 1, place + 2);
-        faults(rows + "row A(40,1);", 3, place + 5);
         faults(rows + "row B(40);", 2, place);
         faults(rows + "row A(3)", 1, place + 4);
         StringBuilder rules = new StringBuilder("table A 1;");
@@ -213,7 +210,6 @@ final class TapeAndTextTest {
         faults("table A 2", 1, 9);
         faults("table A 2;row A(1,2,3);", 3, 20);
         faults("table A 2;row A(1,2,?3);", 3, 20);
-        faults("table A 2;row A(1,2,?x);", 3, 20);
         faults("table A 2;row A(1,2,x);", 1, 20);
         faults("table A 2;row A(1,);", 1, 18);
         faults("table A 2;row A();", 1, 16);
