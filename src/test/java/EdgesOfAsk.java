@@ -286,9 +286,9 @@ final class EdgesOfAsk extends Check {
         for (int n = 0; n < 40; n++) {
             x.put(0, 0, n, n, n);
         }
-        String before = Tell.hall(x, 0).substring(0, 40);
+        String before = Tell.look(x, 0);
         same("a full hall does not count", 1, follows(x, 0, "rule A(x,y,z)->B(a,b,c);"));
-        sameText("and stays", before, Tell.hall(x, 0).substring(0, 40));
+        sameText("and stays", before, Tell.look(x, 0));
         same("an empty one follows from nothing", 1, followsIn("table A 1;", "rule A(x)->A(y);"));
     }
 

@@ -3,12 +3,18 @@ final class Tell {
     private Tell() {
     }
 
-    /** A HALL: its numbers, columns, ROWS, STEPS, who made its ROWS, and what its RULES say. */
-    static String hall(ChaseHall x, int h) {
+    /** All that look() tells of a HALL. */
+    static String look(ChaseHall x, int h) {
         StringBuilder all = new StringBuilder("look");
         for (int what = 0; what <= 7; what++) {
             all.append(' ').append(x.look(h, what));
         }
+        return all.toString();
+    }
+
+    /** A HALL: its numbers, ROWS, STEPS, who made its ROWS, and what its RULES say. */
+    static String hall(ChaseHall x, int h) {
+        StringBuilder all = new StringBuilder(look(x, h));
         all.append("; rows ").append(Check.rows(x, h)).append("; steps");
         for (int i = 0; i < x.look(h, 6); i++) {
             all.append(" (").append(Check.step(x, h, i)).append(')');
