@@ -266,21 +266,25 @@ final class EdgesOfLead extends Check {
     /** The first ROW goes, and only the search without a later one is SPENT. */
     private static void coreSpentLate() {
         promise(19, "NONE, and nothing changes: SPENT.");
-        StringBuilder text = new StringBuilder("table C 1;table A 1;table B 2;row C(?20);row C(7);");
-        for (int n = 0; n < 5; n++) {
-            text.append("row A(?").append(n).append(");");
-        }
-        for (int n = 0; n < 5; n++) {
-            text.append("row B(?").append(n).append(',').append(n).append(");");
-        }
-        ChaseHall less = loaded(text.toString());
-        same("not spent with ten of them", 1, less.core(0));
-        ChaseHall x = loaded(text + "row B(50,60);row B(51,61);row B(52,62);");
+        same("not spent with few of them", 1, loaded(pairs(3)).core(0));
+        ChaseHall x = loaded(pairs(5) + "row B(50,60);row B(51,61);row B(52,62);");
         String before = Tell.hall(x, 0);
         same("spent", NONE, x.core(0));
         sameText("nothing changes", before, Tell.hall(x, 0));
         x.strike(0, 0);
         same("spent by the others, too", NONE, x.core(0));
+    }
+
+    /** A ROW of C that can be missed, and so many of A that stand for one another till their ROWS of B are looked at. */
+    private static String pairs(int count) {
+        StringBuilder text = new StringBuilder("table C 1;table A 1;table B 2;row C(?20);row C(7);");
+        for (int n = 0; n < count; n++) {
+            text.append("row A(?").append(n).append(");");
+        }
+        for (int n = 0; n < count; n++) {
+            text.append("row B(?").append(n).append(',').append(n).append(");");
+        }
+        return text.toString();
     }
 
     private static void coreKeeps() {
