@@ -72,7 +72,7 @@ final class AgainstModelTest {
 
     /** Mostly a HALL, now and then none. */
     private int hall() {
-        return below(60) == 0 ? below(2) * 4 - 1 : below(3);
+        return below(60) == 0 ? below(2) * 4 - 1 : below(2) * below(3);
     }
 
     // texts
@@ -130,9 +130,11 @@ final class AgainstModelTest {
 
     private String hallText() {
         StringBuilder all = new StringBuilder();
-        tableCount = 1 + below(below(20) == 0 ? 7 : 3);
+        // HALLS with the same TABLES can LEAD into one another, and know the TABLES of questions.
+        boolean others = columns[0] == 0 || below(6) == 0;
+        tableCount = others ? 1 + below(below(20) == 0 ? 7 : 3) : tableCount;
         for (int t = 0; t < tableCount; t++) {
-            columns[t] = 1 + below(3);
+            columns[t] = others ? 1 + below(3) : columns[t];
             all.append("table ").append((char) ('A' + t)).append(" ").append(columns[t]).append("; ");
         }
         int spread = 1 + below(6);
@@ -149,7 +151,7 @@ final class AgainstModelTest {
 
     /** Now and then a text is broken somewhere. */
     private String maim(String text) {
-        if (text.isEmpty() || below(5) != 0) {
+        if (text.isEmpty() || below(7) != 0) {
             return text;
         }
         int at = below(text.length());
@@ -271,34 +273,44 @@ final class AgainstModelTest {
         story.append(call);
     }
 
-    /** Everything that can be seen of a HALL. */
+    /** What can be seen of a HALL; of a long run some STEPS, lest they use up the object. */
     private void compareHall(int h) {
         for (int i = -1; i <= 8; i++) {
             int what = i;
             both("look(" + h + ", " + i + ")", () -> real.look(h, what), () -> model.look(h, what));
         }
-        for (int i = -1; i <= model.look(h, 2); i++) {
-            for (int k = -1; k <= 5; k++) {
-                int row = i;
-                int what = k;
-                both("row(" + h + ", " + i + ", " + k + ")", () -> real.row(h, row, what),
-                        () -> model.row(h, row, what));
-            }
+        int rows = model.look(h, 2);
+        for (int i = 0; i < rows; i++) {
+            compareRow(h, i, 0, 4);
         }
-        for (int i = -1; i <= model.look(h, 6); i++) {
-            for (int k = -1; k <= 7; k++) {
-                int row = i;
-                int what = k;
-                both("step(" + h + ", " + i + ", " + k + ")", () -> real.step(h, row, what),
-                        () -> model.step(h, row, what));
-            }
-            spread.melted += model.step(h, i, 5) >= 1000 ? 1 : 0;
+        compareRow(h, below(rows + 2) - 1, -1, 5);
+        int steps = model.look(h, 6);
+        for (int i = below(1 + steps / 8); i < steps; i += 1 + steps / 8) {
+            compareStep(h, i, 0, 6);
         }
-        for (int i = -1; i <= model.look(h, 3); i++) {
+        compareStep(h, below(steps + 2) - 1, -1, 7);
+        int next = model.look(h, 3);
+        for (int i = below(2 + next / 10) - 1; i <= next; i += 1 + next / 10) {
             int number = i;
             both("by(" + h + ", " + i + ")", () -> real.by(h, number), () -> model.by(h, number));
         }
         compareRules(h);
+    }
+
+    private void compareRow(int h, int i, int first, int last) {
+        for (int k = first; k <= last; k++) {
+            int what = k;
+            both("row(" + h + ", " + i + ", " + k + ")", () -> real.row(h, i, what), () -> model.row(h, i, what));
+        }
+    }
+
+    private void compareStep(int h, int i, int first, int last) {
+        for (int k = first; k <= last; k++) {
+            int what = k;
+            both("step(" + h + ", " + i + ", " + k + ")", () -> real.step(h, i, what),
+                    () -> model.step(h, i, what));
+        }
+        spread.melted += model.step(h, i, 5) >= 1000 ? 1 : 0;
     }
 
     private void compareRules(int h) {
@@ -328,8 +340,7 @@ final class AgainstModelTest {
         spread.ends[Math.max(ends, 0)]++;
     }
 
-    private void someCall() {
-        int h = hall();
+    private void someCall(int h) {
         switch (below(10)) {
             case 0: case 1: run(h); break;
             case 2: put(h); break;
@@ -346,13 +357,17 @@ final class AgainstModelTest {
     /** Goes on till the object is used up. */
     private void play() {
         load(0);
+        load(1 + below(2));
         while (true) {
-            someCall();
+            int h = hall();
+            someCall(h);
+            // Mostly the HALL of the call is looked at: it has changed, and the others may be empty.
+            int seen = h >= 0 && h < 3 && below(4) != 0 ? h : below(3);
             int look = below(8);
-            if (look < 2) {
-                compareHall(below(3));
-            } else if (look == 2) {
-                compareWays(below(3));
+            if (look < 3) {
+                compareHall(seen);
+            } else if (look == 3) {
+                compareWays(seen);
             }
         }
     }
